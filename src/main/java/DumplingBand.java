@@ -660,20 +660,18 @@ public final class DumplingBand {
         }
 
         int strengthOf(int set) {
-            int sum = 0;
-            for (int beast = 0; beast < beasts; beast++) {
-                if ((set & 1 << beast) != 0) {
-                    sum += strength[beast];
-                }
-            }
-            return sum;
+            return sumOf(strength, set);
         }
 
         int priceOf(int set) {
+            return sumOf(price, set);
+        }
+
+        private int sumOf(int[] each, int set) {
             int sum = 0;
-            for (int beast = 0; beast < beasts; beast++) {
+            for (int beast = 0; beast < beasts && beast < each.length; beast++) {
                 if ((set & 1 << beast) != 0) {
-                    sum += price[beast];
+                    sum += each[beast];
                 }
             }
             return sum;

@@ -122,6 +122,9 @@ public final class PromisesTest {
         fault("", 0);
         fault("r", 0);
         fault("B0110", 0);
+        fault("000", 0);
+        fault("0000", 0);
+        fault("00R", 0);
         fault("R", 1);
         fault("Rx", 1);
         fault("R0", 2);
@@ -205,6 +208,11 @@ public final class PromisesTest {
         fault(two + "E02", 15);
         fault(two + "E/", 14);
         fault(two + "E0/", 15);
+        // bytes that a shift by them would take for figures
+        fault(two + "EP1", 14);
+        fault(two + "E\u00101", 14);
+        fault(two + "E0Q", 15);
+        fault(two + "E0\u0011", 15);
         fault(two + "E01E", 16);
         fault(two + "E10E", 16);
         String three = two + "B0110";
@@ -244,6 +252,7 @@ public final class PromisesTest {
         due("a FAULT", band.road(), LATE);
         CHECKS.rowDue("nothing is changed", Checks.about(band), 4, 9, 1, 3, 1, 1, 2, 1, 3, 1, 35, 1);
         due("what was kept is not gone", band.again(1), 1);
+        band.dusk();
         due("six", Checks.takeRoad(band, SIX), 6);
         CHECKS.rowDue("all is new but TOLD", Checks.about(band), 6, 99, 0, 0, 0, 0, 0, 0, 0, 1, 33, 0);
         due("what was kept is gone", band.again(0), LATE);
@@ -534,6 +543,7 @@ public final class PromisesTest {
         CHECKS.rowDue("all six", takingRow(all, 63), 21, 63, 0);
         DumplingBand order = given("R09B0151G009G101", 1);
         due("the second waits for the first", order.taking(0, 2), 0);
+        due("what ENVIOUS asks by who came ahead", given("R50B0710B2110", 1).taking(2, 0), 7);
         due("the past is not of it", given(SIX, 6).taking(0, 1), 63);
     }
 
@@ -569,6 +579,7 @@ public final class PromisesTest {
         open.open();
         open.dusk();
         CHECKS.rowDue("all are open", cheapestRow(open), 0, 0);
+        CHECKS.rowDue("all of them", cheapestRow(on("R09B0110B0110G002")), 2, 3);
         CHECKS.rowDue("ENEMIES are of no use together", cheapestRow(on("R09B0120B0110B0110E01G003")), 2, 5);
     }
 
@@ -717,6 +728,7 @@ public final class PromisesTest {
         passed.pass();
         passed.give();
         due("of THE BAND", passed.first(0), 1);
+        due("0 alone", given("R40B0110G001", 1).first(0), 0);
     }
 
     private static int[] boats(DumplingBand band) {
@@ -932,6 +944,10 @@ public final class PromisesTest {
         end.seed(11);
         due("nobody is next", end.roam(10), 63);
         due("THE SEED", end.seed(0), 11);
+        DumplingBand mixed = on(SIX);
+        mixed.seed(1);
+        due("each by its own figure", mixed.roam(5), givenBySeed(1, 6, 5));
+        due("not all, not none", givenBySeed(1, 6, 5) % 63 == 0 ? 1 : 0, 0);
         due("quarrels, too", on("R90B0150B0190E01").roam(10), 2);
         figuresOfTheSeed();
     }
@@ -942,6 +958,15 @@ public final class PromisesTest {
             x = x * 6364136223846793005L + 1442695040888963407L;
         }
         return x;
+    }
+
+    private static int givenBySeed(long seed, int beasts, int t) {
+        int set = 0;
+        for (int beast = 0; beast < beasts; beast++) {
+            long figure = Long.remainderUnsigned(seedBehind(seed, beast + 1) >>> 33, 10);
+            set |= figure < t ? 1 << beast : 0;
+        }
+        return set;
     }
 
     /** One BEAST on THE ROAD: it is GIVEN just if its figure is less than t. */
@@ -1001,8 +1026,22 @@ public final class PromisesTest {
         kept[9] = 1;
         kept[10] = 0;
         CHECKS.rowDue("as it was kept", Checks.about(band), kept);
+        due("what 0 was given", band.beast(0, 6), 2);
         due("what 1 was given", band.beast(1, 6), 3);
         due("what 3 was given", band.beast(3, 6), NONE);
+        DumplingBand otherwise = on("R50B0710B2110");
+        otherwise.keep(0);
+        Checks.giveAll(otherwise, 2);
+        otherwise.keep(1);
+        otherwise.again(0);
+        otherwise.pass();
+        otherwise.give();
+        due("ENVIOUS of nobody", otherwise.beast(1, 6), 1);
+        otherwise.again(1);
+        CHECKS.rowDue("as they were given then", new int[] {otherwise.beast(0, 6), otherwise.beast(1, 6)}, 7, 7);
+        Checks.takeRoad(otherwise, "R50B0310B2110");
+        Checks.giveAll(otherwise, 2);
+        CHECKS.rowDue("on the new ROAD", new int[] {otherwise.beast(0, 6), otherwise.beast(1, 6)}, 3, 3);
         due("THE SEED stays", band.seed(0), 3);
         due("no ACTS", band.undo(), LATE);
         band.dusk();
