@@ -32,6 +32,10 @@ final class Checks {
         return wrong;
     }
 
+    int asked() {
+        return asked;
+    }
+
     void end() {
         System.out.println(wrong == 0 ? asked + " answers are as due" : wrong + " of " + asked + " are not as due");
         if (wrong != 0 || asked == 0) {
