@@ -64,30 +64,42 @@ public final class ModelTest {
         same("about(" + what + ")", band.about(what), plain.about(what));
     }
 
+    /** PARTS in mixed order: GATES and ENEMIES come between BEASTS, too. */
     private String roadText() {
         StringBuilder text = new StringBuilder("R");
         int dumplings = random.nextInt(3) == 0 ? random.nextInt(100) : random.nextInt(25);
         text.append(dumplings / 10).append(dumplings % 10);
         int beasts = 1 + random.nextInt(6);
-        for (int beast = 0; beast < beasts; beast++) {
-            text.append('B').append(random.nextInt(4)).append(1 + random.nextInt(random.nextBoolean() ? 9 : 3));
-            text.append(1 + random.nextInt(9)).append(random.nextInt(random.nextBoolean() ? 4 : 2));
-        }
+        int pairs = random.nextInt(7);
+        int gates = random.nextInt(4);
         boolean[][] isPair = new boolean[6][6];
-        for (int pair = random.nextInt(7); pair > 0; pair--) {
-            int one = random.nextInt(beasts);
-            int other = random.nextInt(beasts);
-            if (one != other && !isPair[one][other]) {
-                isPair[one][other] = true;
-                isPair[other][one] = true;
-                text.append('E').append(one).append(other);
+        int told = 0;
+        while (told < beasts || pairs > 0 || gates > 0) {
+            int part = random.nextInt(3);
+            if (part == 0 && told < beasts) {
+                text.append('B').append(random.nextInt(4)).append(1 + random.nextInt(random.nextBoolean() ? 9 : 3));
+                text.append(1 + random.nextInt(9)).append(random.nextInt(random.nextBoolean() ? 4 : 2));
+                told++;
+            } else if (part == 1 && pairs > 0 && told > 0) {
+                appendPair(text, isPair, told);
+                pairs--;
+            } else if (part == 2 && gates > 0) {
+                int strength = 1 + random.nextInt(random.nextInt(4) == 0 ? 54 : 15);
+                text.append('G').append(random.nextInt(2)).append(strength / 10).append(strength % 10);
+                gates--;
             }
         }
-        for (int gate = random.nextInt(4); gate > 0; gate--) {
-            int strength = 1 + random.nextInt(random.nextInt(4) == 0 ? 54 : 15);
-            text.append('G').append(random.nextInt(2)).append(strength / 10).append(strength % 10);
-        }
         return text.toString();
+    }
+
+    private void appendPair(StringBuilder text, boolean[][] isPair, int told) {
+        int one = random.nextInt(told);
+        int other = random.nextInt(told);
+        if (one != other && !isPair[one][other]) {
+            isPair[one][other] = true;
+            isPair[other][one] = true;
+            text.append('E').append(one).append(other);
+        }
     }
 
     /** A byte changed, or put in, or all cut behind it. */
